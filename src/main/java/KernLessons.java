@@ -49,7 +49,6 @@ public final class KernLessons {
     private static final long FIRST_HASH = 3529L;
     private static final int EXPONENT_OF_ONE = 1023;
     private static final int FRACTION_BITS = 52;
-    private static final double FRACTION_UNIT = 4503599627370496.0;
 
     private final State now = new State();
     private final State[] saved = new State[MOST_SAVED];
@@ -59,6 +58,8 @@ public final class KernLessons {
     private final Buffer buffer = new Buffer();
     /** For what would be: looks must leave the kept table alone. */
     private final Table trial = new Table();
+    /** For each lesson, how many pairs would be set otherwise without it; only as findPairsOtherwise() left it. */
+    private final int[] pairsOtherwise = new int[MOST_LESSONS];
     private final Measure measure = new Measure();
 
     public KernLessons() {
@@ -273,7 +274,7 @@ public final class KernLessons {
             case 1:
                 return now.idleLessons();
             case 2:
-                return now.table.pairsThatLearnt();
+                return now.table.pairsLearnt;
             case 3:
                 return now.shapesOffTheirBase();
             case 4:
@@ -337,16 +338,8 @@ public final class KernLessons {
     }
 
     public int mainLesson() {
-        int main = NONE;
-        int most = NONE;
-        for (int lesson = 0; lesson < now.lessons; lesson++) {
-            int otherwise = pairsOtherwiseWithout(lesson);
-            if (otherwise > most) {
-                most = otherwise;
-                main = lesson;
-            }
-        }
-        return main;
+        findPairsOtherwise();
+        return lessonWithMostOtherwise();
     }
 
     public double tightShare() {
@@ -360,6 +353,7 @@ public final class KernLessons {
     }
 
     public long digest() {
+        findPairsOtherwise();
         long hash = FIRST_HASH;
         hash = hashCountsAndSettings(hash);
         hash = hashLetters(hash);
@@ -369,7 +363,7 @@ public final class KernLessons {
         for (int what = 0; what < TEXT_NUMBERS; what++) {
             hash = hashWith(hash, text(what));
         }
-        hash = hashWith(hash, mainLesson());
+        hash = hashWith(hash, lessonWithMostOtherwise());
         hash = hashWith(hash, bitsOfShare(tightShare()));
         for (int slot = 0; slot < SLOTS; slot++) {
             hash = hashWith(hash, slotFilled[slot] ? 1 : 0);
@@ -440,6 +434,24 @@ public final class KernLessons {
         return otherwise;
     }
 
+    private void findPairsOtherwise() {
+        for (int lesson = 0; lesson < now.lessons; lesson++) {
+            pairsOtherwise[lesson] = pairsOtherwiseWithout(lesson);
+        }
+    }
+
+    private int lessonWithMostOtherwise() {
+        int main = NONE;
+        int most = NONE;
+        for (int lesson = 0; lesson < now.lessons; lesson++) {
+            if (pairsOtherwise[lesson] > most) {
+                most = pairsOtherwise[lesson];
+                main = lesson;
+            }
+        }
+        return main;
+    }
+
     // ---- the parts of the digest
 
     private static long hashWith(long hash, long value) {
@@ -498,7 +510,7 @@ public final class KernLessons {
             for (int what = 0; what < LESSON_PROPERTIES; what++) {
                 hash = hashWith(hash, lessonOf(lesson, what));
             }
-            hash = hashWith(hash, pairsOtherwiseWithout(lesson));
+            hash = hashWith(hash, pairsOtherwise[lesson]);
         }
         return hash;
     }
@@ -515,7 +527,7 @@ public final class KernLessons {
             exponent--;
         }
         // Exact: doubling and taking 1 away from a number from 1 to 2 lose no bit.
-        long fraction = (long) ((scaled - 1.0) * FRACTION_UNIT);
+        long fraction = (long) ((scaled - 1.0) * (1L << FRACTION_BITS));
         return (exponent << FRACTION_BITS) + fraction;
     }
 
@@ -619,8 +631,8 @@ public final class KernLessons {
 
         int learntPairsWithShapes(int shapes) {
             int found = 0;
-            for (int pair = 0; pair < PAIRS; pair++) {
-                if (table.learnt[pair] > 0 && shapesOfPair(pair) == shapes) {
+            for (int i = 0; i < table.pairsLearnt; i++) {
+                if (shapesOfPair(table.learntPairs[i]) == shapes) {
                     found++;
                 }
             }
@@ -647,6 +659,9 @@ public final class KernLessons {
         final int[] tolds = new int[PAIRS];
         /** How many lessons of each pair were not idle. */
         final int[] learnt = new int[PAIRS];
+        /** Each pair that has learnt, once: few of all, so that learning need not look at all. */
+        final int[] learntPairs = new int[PAIRS];
+        int pairsLearnt = 0;
         /** For each lesson 1 if it was idle, otherwise 0. */
         final int[] idle = new int[MOST_LESSONS];
 
@@ -656,6 +671,8 @@ public final class KernLessons {
             System.arraycopy(other.steps, 0, steps, 0, PAIRS);
             System.arraycopy(other.tolds, 0, tolds, 0, PAIRS);
             System.arraycopy(other.learnt, 0, learnt, 0, PAIRS);
+            System.arraycopy(other.learntPairs, 0, learntPairs, 0, PAIRS);
+            pairsLearnt = other.pairsLearnt;
             System.arraycopy(other.idle, 0, idle, 0, MOST_LESSONS);
         }
 
@@ -670,6 +687,7 @@ public final class KernLessons {
             Arrays.fill(steps, 0);
             Arrays.fill(tolds, 0);
             Arrays.fill(learnt, 0);
+            pairsLearnt = 0;
             Arrays.fill(idle, 0);
             for (int i = 0; i < from.lessons; i++) {
                 if (i != leftOut) {
@@ -686,6 +704,8 @@ public final class KernLessons {
             }
             if (learnt[pair] == 0) {
                 steps[pair] = from.settings[FIRST_STEP];
+                learntPairs[pairsLearnt] = pair;
+                pairsLearnt++;
             } else if (tolds[pair] != told) {
                 steps[pair] = Math.max(1, steps[pair] / 2);
             }
@@ -694,39 +714,29 @@ public final class KernLessons {
             int after = before + told * steps[pair];
             after = Math.max(-MOST_KERNING, Math.min(MOST_KERNING, after));
             own[pair] += after - before;
-            learnShapes(from, from.shapesOfPair(pair), told);
+            int shapes = from.shapesOfPair(pair);
+            boolean mayMove = shapeKernings[shapes] * told < MOST_KERNING;
+            if (mayMove && pairsThatAgree(from, shapes, told) >= from.settings[PAIRS_TO_LEARN]) {
+                moveShapes(from, shapes, told);
+            }
             return true;
         }
 
-        private void learnShapes(State from, int shapes, int told) {
-            if (shapeKernings[shapes] * told >= MOST_KERNING) {
-                return;
-            }
-            if (pairsThatAgree(from, shapes, told) < from.settings[PAIRS_TO_LEARN]) {
-                return;
-            }
+        /** The pairs that taught the shapes keep their kerning: their own parts go the other way. */
+        private void moveShapes(State from, int shapes, int told) {
             shapeKernings[shapes] += told;
-            for (int pair = 0; pair < PAIRS; pair++) {
-                if (learnt[pair] > 0 && from.shapesOfPair(pair) == shapes) {
-                    own[pair] -= told;
+            for (int i = 0; i < pairsLearnt; i++) {
+                if (from.shapesOfPair(learntPairs[i]) == shapes) {
+                    own[learntPairs[i]] -= told;
                 }
             }
         }
 
         private int pairsThatAgree(State from, int shapes, int told) {
             int found = 0;
-            for (int pair = 0; pair < PAIRS; pair++) {
-                if (learnt[pair] > 0 && own[pair] * told > 0 && from.shapesOfPair(pair) == shapes) {
-                    found++;
-                }
-            }
-            return found;
-        }
-
-        int pairsThatLearnt() {
-            int found = 0;
-            for (int pair = 0; pair < PAIRS; pair++) {
-                if (learnt[pair] > 0) {
+            for (int i = 0; i < pairsLearnt; i++) {
+                int pair = learntPairs[i];
+                if (own[pair] * told > 0 && from.shapesOfPair(pair) == shapes) {
                     found++;
                 }
             }

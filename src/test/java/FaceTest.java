@@ -9,6 +9,10 @@ import java.util.TreeSet;
 public final class FaceTest {
     private static final Check CHECK = new Check("FaceTest");
 
+    /** LANGUAGE.md, rule 5. */
+    private static final Set<Class<?>> CONSTANT_TYPES = Set.of(int.class, long.class, boolean.class, char.class,
+        String.class, int[].class, long[].class, char[].class, byte[].class);
+
     private static final String[] FACE = {
         "int width(int int) IndexOutOfBoundsException IllegalArgumentException",
         "int shape(int int int) IndexOutOfBoundsException IllegalArgumentException",
@@ -66,6 +70,8 @@ public final class FaceTest {
             boolean constant = field.getName().equals("NONE") && field.getType() == int.class
                 && field.getModifiers() == (Modifier.PUBLIC | Modifier.STATIC | Modifier.FINAL);
             CHECK.isTrue("private: " + field, constant || Modifier.isPrivate(field.getModifiers()));
+            CHECK.isTrue("a constant of an allowed type: " + field, !Modifier.isStatic(field.getModifiers())
+                || Modifier.isFinal(field.getModifiers()) && CONSTANT_TYPES.contains(field.getType()));
         }
     }
 

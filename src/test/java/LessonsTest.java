@@ -13,6 +13,7 @@ public final class LessonsTest {
         shapesLearnDownwards();
         otherOwnParts();
         fivePairs();
+        firstAndLastPair();
         fullLessons();
         circleRefuses();
         forget();
@@ -136,6 +137,28 @@ public final class LessonsTest {
         CHECK.same("four pairs of five", x.shapesOf(0, 1, 0), 100);
         x.circle(8, 9, 1);
         CHECK.same("five pairs of five", x.shapesOf(0, 1, 0), 101);
+    }
+
+    /** The pairs of the letters 0 and 9 and themselves are the first and the last one of all. */
+    private static void firstAndLastPair() {
+        for (int letter : new int[] {0, 9}) {
+            int other = letter == 0 ? 4 : 5;
+            int shape = letter % 4;
+            KernLessons x = new KernLessons();
+            x.circle(letter, letter, -1);
+            CHECK.same("alone below 0", x.tightShare(), 0.01);
+            CHECK.same("alone without", x.ifForgotten(0), 1);
+            x.circle(other, other, -1);
+            CHECK.same("the shapes learn from it", x.shapesOf(shape, shape, 0), 99);
+            CHECK.same("own part", x.pairOf(letter, letter, 2), 98);
+            CHECK.same("pairs with the shapes", x.shapesOf(shape, shape, 2), 9);
+            CHECK.same("pairs that learnt", x.shapesOf(shape, shape, 3), 2);
+            CHECK.same("shapes off their base", x.count(3), 1);
+            CHECK.same("without it", x.ifForgotten(0), 8);
+            Check.type(x, letter == 0 ? "aa" : "jj");
+            CHECK.same("width by places", x.text(0), 29);
+            CHECK.same("width by counts", x.text(1), 29);
+        }
     }
 
     private static void fullLessons() {
