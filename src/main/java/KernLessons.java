@@ -659,7 +659,7 @@ public final class KernLessons {
         final int[] tolds = new int[PAIRS];
         /** How many lessons of each pair were not idle. */
         final int[] learnt = new int[PAIRS];
-        /** Each pair that has learnt, once: few of all, so that learning need not look at all. */
+        /** The pairs that have learnt, each once, so that the row has room; learning looks at these alone. */
         final int[] learntPairs = new int[PAIRS];
         int pairsLearnt = 0;
         /** For each lesson 1 if it was idle, otherwise 0. */
