@@ -17,7 +17,6 @@ public final class ModelTest {
     /** Few letters make lessons meet; many make shapes learn from several pairs. */
     private final int letters;
     private final int run;
-    private final StringBuilder calls = new StringBuilder();
 
     private ModelTest(int run) {
         this.run = run;
@@ -175,7 +174,6 @@ public final class ModelTest {
     private void same(String call, Answer got, Answer due) {
         String answer = answer(got);
         String wanted = answer(due);
-        calls.append(call).append(") ");
         CHECK.isTrue("run " + run + ": " + call + ") answered " + answer + ", due is " + wanted,
             answer.equals(wanted));
     }
